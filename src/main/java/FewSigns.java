@@ -654,7 +654,8 @@ public final class FewSigns {
      * costs something, all least joins of a table are seen before the table itself is settled.
      */
     private static final class Reach {
-        private static final int UNREACHED = Integer.MAX_VALUE;
+        /** Far above any cost that six signs can come to; NOTES.md has the bounds. */
+        private static final int UNREACHED = 1 << 30;
 
         private final int places;
         private final int full;

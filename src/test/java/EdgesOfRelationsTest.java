@@ -25,6 +25,7 @@ public final class EdgesOfRelationsTest {
         sortsForAnySigns();
         keptByNone();
         keptTheEmptyOneToo();
+        keptByEachSign();
         keptByThoseThatSayAll();
         Due.end("EdgesOfRelationsTest");
     }
@@ -285,6 +286,19 @@ public final class EdgesOfRelationsTest {
         few.drop();
         few.drop();
         Due.is("kept(1), gone again", few.kept(1), 3);
+    }
+
+    /** "all SIGNS let": one that does not is enough, be it the first or the last. */
+    private static void keptByEachSign() {
+        for (int at = 0; at < 6; at++) {
+            FewSigns few = new FewSigns();
+            for (int i = 0; i < 6; i++) {
+                few.sign(1, i == at ? 1 : 2, 1);
+            }
+            Due.is("kept(1), sign " + at + " is not", few.kept(1), 2);
+            Due.is("kept(2), sign " + at + " is not", few.kept(2), 4);
+            Due.is("kept(3), sign " + at + " is not", few.kept(3), 16);
+        }
     }
 
     /** The fewest: all rows, and those that say which values are alike. */

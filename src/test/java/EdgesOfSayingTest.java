@@ -397,7 +397,14 @@ public final class EdgesOfSayingTest {
         }
         few.drop();
         for (int n = 1; n <= 3; n++) {
+            Due.is("farthest(" + n + ", 0), the last table", few.farthest(n, 0), 9);
             Due.is("farthest(" + n + ", 1), the last table", few.farthest(n, 1), TABLES[n] - 1);
+        }
+        FewSigns first = new FewSigns();
+        first.sign(0, 0, 9);
+        for (int n = 1; n <= 3; n++) {
+            Due.is("farthest(" + n + ", 0), the first table", first.farthest(n, 0), 9);
+            Due.is("farthest(" + n + ", 1), the first table", first.farthest(n, 1), 0);
         }
     }
 

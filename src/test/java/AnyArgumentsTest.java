@@ -22,23 +22,28 @@ public final class AnyArgumentsTest {
     private static void edges() {
         int[][] signs = {{}, {2}, {3, 0, 1, 2, 3, 3}, {0, 0, 0, 0, 0, 0}, {2, 2, 1, 0, 2, 1}};
         for (int[] places : signs) {
-            FewSigns few = new FewSigns();
-            for (int i = 0; i < places.length; i++) {
-                few.sign(places[i], i % (1 << (1 << places[i])), 1 + i);
-            }
-            String before = state(few);
             for (int a : EDGES) {
-                callOne(few, a);
                 for (int b : EDGES) {
-                    callTwo(few, a, b);
-                    for (int c : EDGES) {
-                        callThree(few, a, b, c);
-                    }
+                    askAll(places, a, b);
                 }
             }
-            Due.holds("asking changes nothing", before.equals(state(few)));
         }
         Due.holds("some answers came", sum != 0);
+    }
+
+    /** A new object for each two numbers, so that it stays within its 512 calls. */
+    private static void askAll(int[] places, int a, int b) {
+        FewSigns few = new FewSigns();
+        for (int i = 0; i < places.length; i++) {
+            few.sign(places[i], i % (1 << (1 << places[i])), 1 + i);
+        }
+        String before = state(few);
+        callOne(few, a);
+        callTwo(few, a, b);
+        for (int c : EDGES) {
+            callThree(few, a, b, c);
+        }
+        Due.holds("asking " + a + ", " + b + " changes nothing", before.equals(state(few)));
     }
 
     private static void callOne(FewSigns few, int a) {
@@ -74,26 +79,34 @@ public final class AnyArgumentsTest {
 
     private static void wandering() {
         Random random = new Random(7);
-        for (int run = 0; run < 300; run++) {
+        for (int run = 0; run < 600; run++) {
             FewSigns few = new FewSigns();
-            for (int call = 0; call < 512; call++) {
-                int a = any(random);
-                int b = any(random);
-                int c = any(random);
-                switch (random.nextInt(9)) {
-                    case 0: sum += few.sign(a, b, c); break;
-                    case 1: sum += random.nextInt(4) == 0 ? few.drop() : 0; break;
-                    case 2: sum += few.type(SOME_TEXTS[random.nextInt(SOME_TEXTS.length)], a); break;
-                    case 3: sum += few.type(random.nextLong(), a); break;
-                    case 4: sum += few.read(a); break;
-                    case 5: sum += random.nextInt(4) == 0 ? few.clear() : 0; break;
-                    case 6: callOne(few, a); break;
-                    case 7: callTwo(few, a, b); break;
-                    default: callThree(few, a, b, c); break;
-                }
+            // A step makes ten calls at most, and three more look at the counts.
+            for (int step = 0; step < (Due.MOST_CALLS - 3) / 10; step++) {
+                wander(few, random);
             }
-            Due.holds("counts stay in their bounds", few.count(0) >= 0 && few.count(0) <= 6
-                    && few.count(1) <= few.count(0) && few.count(2) >= 0 && few.count(2) <= 80);
+            int signs = few.count(0);
+            int ofThree = few.count(1);
+            int bytes = few.count(2);
+            Due.holds("counts stay in their bounds", signs >= 0 && signs <= 6 && ofThree >= 0 && ofThree <= signs
+                    && bytes >= 0 && bytes <= 80);
+        }
+    }
+
+    private static void wander(FewSigns few, Random random) {
+        int a = any(random);
+        int b = any(random);
+        int c = any(random);
+        switch (random.nextInt(12)) {
+            case 0: case 1: sum += few.sign(a, b, c); break;
+            case 2: sum += few.drop(); break;
+            case 3: case 4: sum += few.type(SOME_TEXTS[random.nextInt(SOME_TEXTS.length)], a); break;
+            case 5: case 6: sum += few.type(random.nextLong(), a); break;
+            case 7: sum += few.read(a); break;
+            case 8: sum += random.nextInt(4) == 0 ? few.clear() : 0; break;
+            case 9: callOne(few, a); break;
+            case 10: callTwo(few, a, b); break;
+            default: callThree(few, a, b, c); break;
         }
     }
 
@@ -114,7 +127,7 @@ public final class AnyArgumentsTest {
     }
 
     private static void calls(FewSigns few) {
-        for (int turn = 0; turn < 20; turn++) {
+        for (int turn = 0; turn < 6; turn++) {
             few.sign(2, 7, 1 + turn % 9);
             few.sign(1, 1, 1);
             few.sign(0, 1, 2);

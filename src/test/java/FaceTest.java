@@ -18,6 +18,12 @@ public final class FaceTest {
         "count(int)",
     };
 
+    /** What the interface says ahead of the calls, each with the first call behind it. */
+    private static final String[][] HEADINGS = {
+        {"signs", "sign"}, {"what can be said", "reached"}, {"families", "says"}, {"relations", "lets"},
+        {"formulas", "type"},
+    };
+
     public static void main(String[] args) throws Exception {
         constants();
         face();
@@ -100,7 +106,22 @@ public final class FaceTest {
                 Due.holds("plain signs alone, at " + i, false);
             }
         }
+        order(source);
         shortMethods(source.split("\n"));
+    }
+
+    /** The calls stand in the document's order, behind its headings. */
+    private static void order(String source) {
+        int from = 0;
+        for (String call : FACE) {
+            int at = source.indexOf("    public int " + call.substring(0, call.indexOf('(') + 1));
+            Due.holds(call + " stands in its order", at > from);
+            from = at;
+        }
+        for (String[] heading : HEADINGS) {
+            Due.holds("the heading " + heading[0],
+                    source.contains("    // ---- " + heading[0] + "\n\n    public int " + heading[1] + "("));
+        }
     }
 
     private static void shortMethods(String[] lines) {

@@ -10,6 +10,9 @@ public final class OracleTest {
     private static final int BAD = -1, STATE = -2, FULL = -3, NONE = -9;
     private static final int MANY = 1 << 28;
 
+    /** No turn of a run makes more calls: the longest types a text of some 130 bytes, one by one. */
+    private static final int TURN = 180;
+
     private int signs = 0;
     private final int[] places = new int[6];
     private final int[] tables = new int[6];
@@ -24,7 +27,7 @@ public final class OracleTest {
 
     public static void main(String[] args) {
         Random random = new Random(20261116);
-        for (int run = 0; run < 250; run++) {
+        for (int run = 0; run < 500; run++) {
             play(random, run);
         }
         everyTableAlone();
@@ -423,10 +426,11 @@ public final class OracleTest {
         OracleTest slow = new OracleTest();
         int told = random.nextInt(7);
         int most = random.nextInt(4);
+        int start = Due.calls();
         for (int i = 0; i < told; i++) {
             slow.tellSign(few, random, most);
         }
-        for (int call = 0; call < 60; call++) {
+        for (int turn = 0; turn < 60 && Due.calls() - start <= Due.MOST_CALLS - TURN; turn++) {
             int kind = random.nextInt(16);
             if (kind == 0) {
                 slow.tellSign(few, random, most);

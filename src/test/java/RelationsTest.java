@@ -14,13 +14,14 @@ public final class RelationsTest {
     }
 
     private static void noSigns() {
-        FewSigns few = new FewSigns();
         int[] all = {0, 4, 16, 256};
         for (int r = 1; r <= 3; r++) {
+            FewSigns few = new FewSigns();
+            FewSigns other = new FewSigns();
             Due.is("kept(" + r + ") by none", few.kept(r), all[r]);
             for (int rows = 0; rows < all[r]; rows++) {
                 Due.is("around(" + r + ", " + rows + ") by none", few.around(r, rows), rows);
-                Due.is("letting(" + r + ", " + rows + ") of none", few.letting(r, rows), 0);
+                Due.is("letting(" + r + ", " + rows + ") of none", other.letting(r, rows), 0);
             }
         }
     }
